@@ -814,7 +814,7 @@ public final class RequestGate {
             }
         }
 
-        /** Parts are earlier, so one way up from the first tells all: going down would tell shared parts again and again. */
+        /** One way up from the first, as parts are earlier; going down would tell shared parts again and again. */
         boolean isTrueFor(int number, int asking, int held, int argument) {
             if (!has(number)) {
                 return false;

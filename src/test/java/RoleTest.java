@@ -4,6 +4,7 @@ public final class RoleTest {
         wrongInputs();
         inclusionGoesOn();
         circlesAreFine();
+        givenRolesCount();
         rolesAddedLaterCount();
         Check.end();
     }
@@ -49,19 +50,38 @@ public final class RoleTest {
         Check.due("role(6, 1)", gate.role(6, 1), false);
     }
 
-    private static void rolesAddedLaterCount() {
+    /** Rule 0 lets all through; the operations of types 0 and 1 tell by their conditions which of the eight roles the subject has. */
+    private static RequestGate tellingRoles(int given) {
         RequestGate gate = new RequestGate();
         gate.expression(0, 0, 0);
         for (int r = 0; r < 8; r++) {
             gate.expression(3, r, 0);
         }
         Check.rule(gate, "/", 0, 1);
-        gate.user(1, 128 + 2, 1);
+        gate.user(1, given, 1);
         gate.service(-1, -1, -1);
         gate.service(-1, -1, -1);
         for (int r = 0; r < 8; r++) {
             gate.declare(r / 4, r % 4, 1 + r);
         }
+        return gate;
+    }
+
+    private static void givenRolesCount() {
+        for (int given = 0; given < 256; given++) {
+            RequestGate gate = tellingRoles(given);
+            int session = gate.login(0, 1, 0, true);
+            Check.get(gate, "/", session);
+            due(gate, given);
+            gate.close();
+            Check.open(gate, "/", 0, 0, 0, session + 2, session + 3);
+            Check.due("remembered", gate.who(), 8);
+            due(gate, given);
+        }
+    }
+
+    private static void rolesAddedLaterCount() {
+        RequestGate gate = tellingRoles(128 + 2);
         Check.get(gate, "/", gate.login(0, 1, 0, false));
         due(gate, 128 + 2);
         gate.role(1, 4);
