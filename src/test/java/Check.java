@@ -1,14 +1,20 @@
 /** What the tests share: each wrong answer is printed, and ends the test with exit code 1. */
 final class Check {
     private static int wrong = 0;
+    private static String sentence = "";
 
     private Check() {
+    }
+
+    /** What follows tests this sentence of the document, which is printed with each wrong answer. */
+    static void about(String text) {
+        sentence = " (" + text + ")";
     }
 
     static void due(String call, long got, long want) {
         if (got != want) {
             wrong++;
-            System.out.println(call + " answered " + got + ", due is " + want);
+            System.out.println(call + " answered " + got + ", due is " + want + sentence);
         }
     }
 
